@@ -49,6 +49,8 @@ public final class BuildsTest {
         int get = x.refer(Sorts.GET_STATIC, 3, 3, 1);
         CHECKS.due("PRIVATE in the NEST", x.resolve(1, get), Sorts.M + 1);
         CHECKS.due("the next number", x.member(3, true, 0, Sorts.PUBLIC, 0), 4);
+        int cast = x.refer(Sorts.TYPE, 0, 3, 0);
+        CHECKS.due("PACKAGES", x.resolve(1, cast), Sorts.BARRED + 3);
     }
 
     private static void branchOverwritesNew() {

@@ -254,6 +254,10 @@ public final class ResolveTest {
         CHECKS.due("STATIC by its TYPE", told(x, Sorts.PUT_STATIC, 1, 1, 1), Sorts.M + 1);
         CHECKS.due("STATIC by another one", told(x, Sorts.PUT_STATIC, 2, 1, 1), Sorts.BARRED + Sorts.M + 1);
         CHECKS.due("CHANGED before BARRED", told(x, Sorts.PUT, 2, 1, 1), Sorts.CHANGED + Sorts.M + 1);
+        x.member(1, false, 2, Sorts.PUBLIC, 0);
+        x.member(1, false, 3, Sorts.PUBLIC, Sorts.STATIC);
+        CHECKS.due("PUT of one that is not FINAL", told(x, Sorts.PUT, 2, 1, 2), Sorts.M + 3);
+        CHECKS.due("STATIC, not FINAL", told(x, Sorts.PUT_STATIC, 2, 1, 3), Sorts.M + 4);
         CHECKS.due("a FINAL METHOD", told(x, Sorts.VIRTUAL, 2, 1, 0), Sorts.M + 2);
     }
 
@@ -270,6 +274,8 @@ public final class ResolveTest {
         CHECKS.due("r UNDER d", told(x, Sorts.SPECIAL, 1, 2, 0), Sorts.CHANGED + 2);
         CHECKS.due("neither", told(x, Sorts.SPECIAL, 3, 1, 0), Sorts.CHANGED + 1);
         CHECKS.due("UNDER a FACE", told(x, Sorts.SPECIAL, 2, 4, 1), Sorts.M + 1);
+        x.remake(1, Sorts.PUBLIC, Sorts.ABSTRACT);
+        CHECKS.due("UNDER a FACE, ABSTRACT", told(x, Sorts.SPECIAL, 2, 4, 1), Sorts.CUT + Sorts.M + 1);
         x.remake(0, Sorts.PUBLIC, Sorts.ABSTRACT);
         CHECKS.due("ABSTRACT", told(x, Sorts.SPECIAL, 2, 1, 0), Sorts.CUT + Sorts.M);
         CHECKS.due("CHANGED r before CUT", told(x, Sorts.SPECIAL, 3, 1, 0), Sorts.CHANGED + 1);
