@@ -71,6 +71,11 @@ public final class BuildsTest {
         CHECKS.due("ABSTRACT as in OLD", x.count(1, 5), 2);
         CHECKS.due("the next number", x.member(2, true, 9, Sorts.PUBLIC, 0), 4);
         CHECKS.yes("it is THERE", x.remove(4));
+        x.type(7, 1, 0, 0, 0);
+        x.drop(7);
+        x.type(7, 1, 0, 0, 0);
+        CHECKS.due("nothing is left of NEW's own", x.member(7, true, 0, Sorts.PUBLIC, 0), 5);
+        CHECKS.yes("it is THERE, too", x.remake(5, Sorts.PUBLIC, 0));
     }
 
     private static void branchLeavesTwoBuilds() {

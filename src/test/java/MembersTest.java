@@ -62,6 +62,8 @@ public final class MembersTest {
         x.remake(28, 3, Sorts.STATIC);
         i = x.refer(Sorts.VIRTUAL, 0, 0, 13);
         CHECKS.due("a high number is blamed", x.resolve(0, i), Sorts.CHANGED + Sorts.M + 28);
+        CHECKS.yes("drop when it is FULL", x.drop(1));
+        CHECKS.due("1 had none", x.count(0, 1), 29);
         x.write(1);
         CHECKS.due("NEW is not FULL", x.member(0, true, 0, 3, 0), 0);
     }
