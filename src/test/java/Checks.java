@@ -1,6 +1,15 @@
+import java.io.IOException;
+import java.nio.file.Files;
+import java.nio.file.Path;
+
 /** Compares answers with those that are due and tells at the end whether all were right. */
 final class Checks {
+    private static final Path DOCUMENT = Path.of("..", "shared", "DOC.md");
+
     private final String name;
+    private final String document = readDocument();
+    private String sentence = "";
+    private int madeOfSentence = 1;
     private int made = 0;
     private int wrong = 0;
 
@@ -8,11 +17,21 @@ final class Checks {
         this.name = name;
     }
 
+    /** What follows, up to the next sentence, checks these words of the document. */
+    void sentence(String words) {
+        endSentence();
+        sentence = words;
+        madeOfSentence = 0;
+        if (!document.isEmpty() && !document.contains(words)) {
+            tellWrong("the document does not say: " + words);
+        }
+    }
+
     void due(String call, long got, long want) {
         made++;
+        madeOfSentence++;
         if (got != want) {
-            wrong++;
-            System.out.println(name + ": " + call + " answered " + got + ", due is " + want);
+            tellWrong(call + " answered " + got + ", due is " + want);
         }
     }
 
@@ -25,9 +44,30 @@ final class Checks {
     }
 
     void end() {
+        endSentence();
         System.out.println(name + ": " + made + " checks, " + wrong + " wrong");
         if (wrong != 0 || made == 0) {
             System.exit(1);
+        }
+    }
+
+    private void endSentence() {
+        if (madeOfSentence == 0) {
+            tellWrong("nothing was checked of: " + sentence);
+        }
+    }
+
+    private void tellWrong(String what) {
+        wrong++;
+        System.out.println(name + ": " + what + (sentence.isEmpty() ? "" : "   [" + sentence + "]"));
+    }
+
+    // Without the document the words go unchecked, for then the answers can be checked all the same.
+    private static String readDocument() {
+        try {
+            return Files.isReadable(DOCUMENT) ? Files.readString(DOCUMENT) : "";
+        } catch (IOException e) {
+            return "";
         }
     }
 }
