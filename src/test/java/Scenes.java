@@ -1,7 +1,7 @@
 import java.util.List;
 import java.util.function.Supplier;
 
-/** Objects in a state that refused calls could spoil. Each call makes a new object, with no more than 80 calls. */
+/** Objects in a state that refused calls could spoil. Each call makes a new object, with no more than 60 calls. */
 final class Scenes {
     /** The signs that MEMBERS of a rich object have. */
     static final int[] SIGNS = {0, 1, 14};

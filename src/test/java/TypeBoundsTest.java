@@ -119,10 +119,15 @@ public final class TypeBoundsTest {
 
     private static void objectsDoNotShare() {
         CHECKS.sentence("`LinkPredictor()`: The BUILD that is WRITTEN is OLD");
-        LinkPredictor x = Scenes.rich();
         Refusals fresh = new Refusals(CHECKS, Scenes::fresh);
-        fresh.unchanged("calls on another object", y -> x.branch() + x.forget() + (x.type(1, 0, 0, 0, 0) ? 1 : 0));
-        CHECKS.due("it has its own TYPES", x.count(0, 0), 10);
+        fresh.unchanged("calls on another object", x -> Scenes.rich().count(0, 0));
+        fresh.unchanged("calls on a full one", x -> Scenes.full().count(1, 2));
+        LinkPredictor rich = Scenes.rich();
+        LinkPredictor full = Scenes.full();
+        CHECKS.due("its own TYPES", rich.count(0, 0), 10);
+        CHECKS.due("its own MEMBERS", full.count(0, 2), 30);
+        CHECKS.due("its own REFERENCES", rich.forget(), 8);
+        CHECKS.due("its own REFERENCES", full.forget(), 16);
     }
 
     private static void rootIsAsSaid() {
