@@ -11,6 +11,8 @@ public final class OracleTest {
     private long seed = 20261118;
     private LinkPredictor x;
     private Oracle o;
+    // Which TYPE stands at a rank; a tidy TYPE has parents of lower ranks.
+    private final int[] ranks = new int[12];
     private int signs;
     private int packs;
     private int wrongOnceIn;
@@ -40,9 +42,10 @@ public final class OracleTest {
         packs = 1 + any(4);
         wrongOnceIn = 2000;
         boolean tidy = any(4) != 0;
-        for (int t = 1; t < 12; t++) {
+        rankTypes(any(2) == 0);
+        for (int rank = 1; rank < 12; rank++) {
             if (tidy || any(3) != 0) {
-                makeType(t, tidy);
+                makeType(rank, tidy);
             }
         }
         for (int n = 0; n < 12; n++) {
@@ -56,6 +59,35 @@ public final class OracleTest {
         for (int calls = 36; calls < CALLS; calls++) {
             call(tidy);
         }
+    }
+
+    /** By their numbers, or shuffled, so that what is asked first or has the least number may lie below the others. */
+    private void rankTypes(boolean shuffled) {
+        for (int rank = 0; rank < 12; rank++) {
+            ranks[rank] = rank;
+        }
+        for (int rank = 11; shuffled && rank > 1; rank--) {
+            int other = 1 + any(rank);
+            int t = ranks[rank];
+            ranks[rank] = ranks[other];
+            ranks[other] = t;
+        }
+    }
+
+    private int anyFace() {
+        return ranks[1 + any(5)];
+    }
+
+    private int anyClass() {
+        return ranks[6 + any(6)];
+    }
+
+    private int ranked(int set) {
+        int types = 0;
+        for (int rank = 0; rank < 12; rank++) {
+            types |= (set >> rank & 1) << ranks[rank];
+        }
+        return types;
     }
 
     private void call(boolean tidy) {
@@ -73,22 +105,22 @@ public final class OracleTest {
         }
     }
 
-    /** A tidy TYPE has parents with lower numbers, of which 1 to 5 are INTERFACES. */
-    private void makeType(int t, boolean tidy) {
+    /** A tidy TYPE has parents of lower ranks, of which 1 to 5 are those of INTERFACES. */
+    private void makeType(int rank, boolean tidy) {
         int flags = any(8) == 0 ? 0 : 1;
         int above = 0;
         int faces = any(4096) & any(4096);
         if (tidy) {
-            flags |= t <= 5 ? 2 : any(6) == 0 ? 4 : 0;
-            above = t <= 6 || any(3) == 0 ? 0 : 6 + any(t - 6);
-            faces &= t <= 5 ? (1 << t) - 2 : 0b111110;
+            flags |= rank <= 5 ? 2 : any(6) == 0 ? 4 : 0;
+            above = rank <= 6 || any(3) == 0 ? 0 : ranks[6 + any(rank - 6)];
+            faces = ranked(faces & (rank <= 5 ? (1 << rank) - 2 : 0b111110));
         } else {
             flags = any(16) & any(16);
             above = any(3) == 0 ? 0 : any(12);
             faces &= any(4096);
         }
         int pack = seldomWrong(any(packs));
-        t = seldomWrong(t);
+        int t = seldomWrong(ranks[rank]);
         flags = seldomWrong(flags);
         above = seldomWrong(above);
         faces = seldomWrong(faces);
@@ -96,7 +128,7 @@ public final class OracleTest {
     }
 
     private void makeMember() {
-        int t = seldomWrong(any(2) == 0 ? any(12) : 1 + any(5));
+        int t = seldomWrong(any(2) == 0 ? any(12) : anyFace());
         boolean method = any(4) != 0;
         int sign = seldomWrong(any(signs));
         int access = seldomWrong(any(2) == 0 ? 3 : any(4));
@@ -106,8 +138,8 @@ public final class OracleTest {
 
     private void makeReference() {
         int kind = seldomWrong(any(2) == 0 ? any(9) : any(2) == 0 ? 7 : 4 + any(2));
-        int d = seldomWrong(kind == 5 ? 6 + any(6) : any(12));
-        int r = seldomWrong(kind == 7 && any(5) != 0 ? 1 + any(5) : any(12));
+        int d = seldomWrong(kind == 5 ? anyClass() : any(12));
+        int r = seldomWrong(kind == 7 && any(5) != 0 ? anyFace() : any(12));
         int sign = seldomWrong(any(signs));
         same("refer", x.refer(kind, d, r, sign), o.refer(kind, d, r, sign));
     }
@@ -148,7 +180,7 @@ public final class OracleTest {
         } else if (what == 1) {
             same("resolve", seen(sorts, x.resolve(build, i)), o.resolve(build, i));
         } else if (what == 2) {
-            int c = any(3) == 0 ? t : 6 + any(6);
+            int c = any(3) == 0 ? t : anyClass();
             same("select", seen(selected, x.select(build, i, c)), o.select(build, i, c));
         } else if (what == 3) {
             int got = x.compare(i);
